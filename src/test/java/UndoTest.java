@@ -8,13 +8,16 @@ public final class UndoTest {
         queriesRecordNothing();
         atMostFiveStates();
         callsWithoutDifference();
+        errorsKeepTheOldestState();
         wholeState();
         countsOfReads();
+        logAndLatestRead();
         savedState();
         restoreAndUndo();
         checks.finish();
     }
 
+    /** More calls than can be undone, so that an older state in place of the right one shows. */
     private static ReplicaSessions store() {
         ReplicaSessions x = new ReplicaSessions();
         x.addReplica(1, -6);
@@ -25,58 +28,83 @@ public final class UndoTest {
         return x;
     }
 
+    private static void isAsBefore(int promise, String call, ReplicaSessions x) {
+        checks.due(promise, call + " is undoable", x.undo(), 4);
+        checks.due(promise, "replicas before " + call, x.replicas(), 1);
+        checks.due(promise, "rate before " + call, x.replica(0, 0), 1);
+        checks.due(promise, "stopped before " + call, x.replica(0, 1), 0);
+        checks.due(promise, "position before " + call, x.position(0), 1);
+        checks.due(promise, "length before " + call, x.length(), 3);
+        checks.due(promise, "sessions before " + call, x.sessions(), 3);
+        checks.due(promise, "home before " + call, x.session(0, 0), 0);
+        checks.due(promise, "options before " + call, x.session(0, 1), 1);
+        checks.due(promise, "bound before " + call, x.session(0, 2), 20);
+        checks.due(promise, "own mark before " + call, x.session(0, 3), 3);
+        checks.due(promise, "own mark before " + call, x.session(1, 3), 0);
+        checks.due(promise, "seen mark before " + call, x.session(0, 4), 0);
+        checks.due(promise, "seen mark before " + call, x.session(1, 4), 0);
+        checks.due(promise, "reads before " + call, x.session(0, 6) + x.session(1, 6), 0);
+        checks.due(promise, "latest read before " + call, x.latest(0), -6);
+        checks.due(promise, "answers before " + call, x.answers(0) + x.answers(9), 0);
+        checks.due(promise, "undo of what was before " + call, x.undo(), 3);
+        checks.due(promise, "the tick before " + call + " has not passed", x.position(0), 0);
+    }
+
     private static void undoOfEachCall() {
         ReplicaSessions x = store();
         x.addReplica(2, 9);
-        checks.due(2, "addReplica is undoable", x.undo(), 4);
-        checks.due(2, "the replica is gone", x.replicas(), 1);
+        isAsBefore(2, "addReplica", x);
+        x = store();
         x.drop(0);
-        x.undo();
-        checks.due(3, "the replica is there", x.position(0), 1);
-        checks.due(3, "the home is the replica", x.session(0, 0), 0);
+        isAsBefore(3, "drop", x);
+        x = store();
         x.setRate(0, 7);
-        x.undo();
-        checks.due(4, "the rate", x.replica(0, 0), 1);
+        isAsBefore(4, "setRate", x);
+        x = store();
         x.stop(0, true);
-        x.undo();
-        checks.due(5, "it is not stopped", x.replica(0, 1), 0);
+        isAsBefore(5, "stop", x);
+        x = store();
         x.jumpBack(0, 0);
-        x.undo();
-        checks.due(6, "the position", x.position(0), 1);
+        isAsBefore(6, "jumpBack", x);
+        x = store();
         x.tick(1);
-        x.undo();
-        checks.due(7, "the position", x.position(0), 1);
+        isAsBefore(7, "tick", x);
+        x = store();
         x.open(9, 0, 0);
-        x.undo();
-        checks.due(17, "the session is gone", x.sessions(), 3);
+        isAsBefore(17, "open", x);
+        x = store();
         x.close(0);
-        x.undo();
-        checks.due(18, "the session is there", x.session(0, 3), 3);
+        isAsBefore(18, "close", x);
+        x = store();
         x.move(0, 9);
-        x.undo();
-        checks.due(19, "the home", x.session(0, 0), 0);
+        isAsBefore(19, "move", x);
+        x = store();
         x.change(0, 7, 6);
-        x.undo();
-        checks.due(20, "the options", x.session(0, 1), 1);
-        checks.due(20, "the bound", x.session(0, 2), 20);
+        isAsBefore(20, "change", x);
+        x = store();
         x.hand(0, 1);
-        x.undo();
-        checks.due(21, "the seen mark", x.session(1, 4), 0);
+        isAsBefore(21, "hand", x);
+        x = store();
         x.write(1, 5, 5);
-        x.undo();
-        checks.due(24, "the length", x.length(), 3);
-        checks.due(24, "the own mark", x.session(1, 3), 0);
+        isAsBefore(24, "write", x);
+        x = store();
         x.read(0, 0);
-        x.undo();
-        checks.due(25, "the ticks have not passed", x.position(0), 1);
-        checks.due(25, "the seen mark", x.session(0, 4), 0);
-        checks.due(25, "there is no latest read", x.latest(0), -6);
-        checks.due(25, "no answer", x.answers(0), 0);
+        isAsBefore(25, "read", x);
+        x = store();
         x.readAt(1, 0, 9);
-        x.undo();
-        checks.due(26, "the seen mark", x.session(1, 4), 0);
-        checks.due(26, "no answer", x.answers(9), 0);
-        checks.due(36, "the states that were recorded before", x.undo(), 3);
+        isAsBefore(26, "readAt", x);
+        x = store();
+        Checks.type(x, "t1;m0>p;w1:0=0");
+        x.execute();
+        isAsBefore(35, "execute", x);
+        x = new ReplicaSessions();
+        x.save();
+        checks.due(38, "restore is undoable", x.restore(), 0);
+        checks.due(38, "restore is undoable", x.undo(), 0);
+        x = store();
+        x.save();
+        x.restore();
+        isAsBefore(38, "restore", x);
     }
 
     private static void errorsRecordNothing() {
@@ -148,6 +176,17 @@ public final class UndoTest {
         checks.due(36, "one is recorded again", x.undo(), 0);
     }
 
+    private static void errorsKeepTheOldestState() {
+        ReplicaSessions x = store();
+        x.write(0, 12, 0);
+        x.tick(0);
+        for (int left = 4; left >= 0; left--) {
+            checks.due(36, "five are kept", x.undo(), left);
+        }
+        checks.due(36, "the sessions of the oldest one", x.sessions(), 1);
+        checks.due(36, "the length of the oldest one", x.length(), 0);
+    }
+
     private static void callsWithoutDifference() {
         ReplicaSessions x = new ReplicaSessions();
         x.open(9, 0, 0);
@@ -201,6 +240,51 @@ public final class UndoTest {
         x.write(1, 0, 2);
         x.readAt(0, 0, 0);
         checks.due(36, "the undone write does not count", x.session(0, 7), 0);
+    }
+
+    private static void logAndLatestRead() {
+        ReplicaSessions x = new ReplicaSessions();
+        x.addReplica(1, -6);
+        x.open(0, 1, 20);
+        x.open(9, 0, 0);
+        x.write(0, 3, 7);
+        x.write(1, 4, 8);
+        x.read(0, 3);
+        x.readAt(1, 4, 9);
+        x.readAt(1, 4, 0);
+        x.save();
+        x.undo();
+        x.undo();
+        x.undo();
+        x.undo();
+        x.undo();
+        checks.due(36, "an empty log", x.length(), 0);
+        x.write(1, 5, 17);
+        x.readAt(0, 5, 9);
+        x.restore();
+        checks.due(38, "the key", x.logged(1, 0), 3);
+        checks.due(38, "the value", x.logged(1, 1), 7);
+        checks.due(38, "the session", x.logged(1, 2), 0);
+        checks.due(38, "the place that answered", x.latest(0), 0);
+        checks.due(38, "the version", x.latest(1), 0);
+        checks.due(38, "the read that undid a write", x.session(1, 7), 1);
+        checks.due(38, "the read that went back", x.session(1, 8), 1);
+        checks.due(38, "the answers of the replica", x.answers(0), 2);
+        checks.due(38, "the answers of the primary", x.answers(9), 1);
+        x.undo();
+        checks.due(38, "the key", x.logged(1, 0), 5);
+        checks.due(38, "the value", x.logged(1, 1), 17);
+        checks.due(38, "the session", x.logged(1, 2), 1);
+        checks.due(38, "the place that answered", x.latest(0), 9);
+        checks.due(38, "the version", x.latest(1), 1);
+        checks.due(38, "no read undid a write", x.session(1, 7), 0);
+        checks.due(38, "no read went back", x.session(1, 8), 0);
+        x = store();
+        x.read(0, 0);
+        x.readAt(1, 1, 9);
+        x.undo();
+        checks.due(36, "the version", x.latest(1), 3);
+        checks.due(36, "the ticks", x.latest(2), 2);
     }
 
     private static void savedState() {
