@@ -941,7 +941,8 @@ public final class ReplicaSessions {
         }
 
         private State stateAfterOldest(int distance) {
-            return states[Math.floorMod(oldest + distance, SIZE)];
+            int index = Math.floorMod(oldest + distance, SIZE);
+            return isWithin(index, 0, SIZE - 1) ? states[index] : null;
         }
     }
 

@@ -1,3 +1,5 @@
+import java.util.List;
+
 /** Counts the answers of one test, and prints those that are not due. */
 final class Checks {
     private int right = 0;
@@ -10,6 +12,10 @@ final class Checks {
             wrong++;
             System.out.println("promise " + promise + ": " + call + " answered " + got + ", due is " + want);
         }
+    }
+
+    void same(int promise, String what, List<Integer> got, List<Integer> want) {
+        holds("promise " + promise + ": " + what + " answered " + got + ", due is " + want, got.equals(want));
     }
 
     void holds(String what, boolean isSo) {
