@@ -2,7 +2,8 @@ import java.util.Arrays;
 
 /**
  * A store with one primary and replicas that lag behind it: writes go into a log, replicas take
- * the log over at their own pace, and sessions read from them only what they surely know.
+ * the log over at their own pace, are stopped or jump back, and sessions read from them only what
+ * they surely know.
  */
 public final class ReplicaSessions {
     public static final int NO_SUCH = -1;
